@@ -1,0 +1,283 @@
+/** Promises 11 to 15: deliver, twice, lose, poke, letter; what is dropped, and what is lost by want of room. */
+final class LineTest {
+    private static final Expect e = new Expect();
+
+    public static void main(String[] args) {
+        noneSuch();
+        loseKeepsTheOrder();
+        deliverFromTheMiddle();
+        twiceStays();
+        pokeChangesAByte();
+        everyBitIsChecked();
+        hostDrops();
+        hostTakesTheEdges();
+        machineDropsOtherTraces();
+        machineDropsOtherKinds();
+        lettersStayOnTheirWay();
+        roomForTwentyFour();
+        roomWhenTwice();
+        e.end();
+    }
+
+    private static void noneSuch() {
+        AutoTeller x = Setup.inserted();
+        for (int n = 0; n < 2; n++) {
+            for (int bad : new int[] {-1, n, 23, 24, Integer.MAX_VALUE, Integer.MIN_VALUE}) {
+                e.due("deliver(" + bad + ")", -1, x.deliver(bad));
+                e.due("twice(" + bad + ")", -1, x.twice(bad));
+                e.due("lose(" + bad + ")", -1, x.lose(bad));
+                e.due("poke(" + bad + ", 0, 1)", false, x.poke(bad, 0, 1));
+                e.due("letter(" + bad + ", 0)", -1, x.letter(bad, 0));
+            }
+            x.pin(1234);
+        }
+        for (int bad : new int[] {-1, 13, Integer.MAX_VALUE, Integer.MIN_VALUE}) {
+            e.due("poke(0, " + bad + ", 1)", false, x.poke(0, bad, 1));
+            e.due("letter(0, " + bad + ")", -1, x.letter(0, bad));
+        }
+        for (int bad : new int[] {0, -1, 256, Integer.MAX_VALUE, Integer.MIN_VALUE}) {
+            e.due("poke(0, 0, " + bad + ")", false, x.poke(0, 0, bad));
+        }
+        e.due("letter(0, 0)", 1, x.letter(0, 0));
+        e.due("deliver(0)", 1, x.deliver(0));
+        e.due("count(7)", 0, x.count(7));
+    }
+
+    /** PIN checks that time out leave letters with traces 1, 2, 3 ... in flight. */
+    private static AutoTeller withLetters(int n) {
+        AutoTeller x = Setup.ready();
+        for (int k = 0; k < n; k++) {
+            x.insert(0);
+            x.pin(1234);
+            x.timeout();
+        }
+        return x;
+    }
+
+    private static void dueTraces(String when, AutoTeller x, int... traces) {
+        e.due(when + ": count(6)", traces.length, x.count(6));
+        for (int i = 0; i < traces.length; i++) {
+            e.due(when + ": letter(" + i + ", 4)", traces[i], x.letter(i, 4));
+        }
+        e.due(when + ": letter(" + traces.length + ", 4)", -1, x.letter(traces.length, 4));
+    }
+
+    private static void loseKeepsTheOrder() {
+        AutoTeller x = withLetters(4);
+        e.due("lose(1)", 3, x.lose(1));
+        dueTraces("after lose(1)", x, 1, 3, 4);
+        e.due("lose(2)", 2, x.lose(2));
+        dueTraces("after lose(2)", x, 1, 3);
+        e.due("lose(0)", 1, x.lose(0));
+        dueTraces("after lose(0)", x, 3);
+        e.due("lose(0)", 0, x.lose(0));
+        e.due("count(8): not by want of room", 0, x.count(8));
+        e.due("count(7)", 0, x.count(7));
+        x.insert(0);
+        x.pin(1234);
+        dueTraces("sent after that", x, 5);
+        x.cut();
+        e.due("lose(0) while off", 0, x.lose(0));
+    }
+
+    private static void deliverFromTheMiddle() {
+        AutoTeller x = withLetters(3);
+        e.due("deliver(1)", 3, x.deliver(1));
+        dueTraces("after deliver(1)", x, 1, 3, 2);
+        e.due("letter(2, 0)", 129, x.letter(2, 0));
+        e.due("letter(0, 0)", 1, x.letter(0, 0));
+        e.due("deliver(2)", 2, x.deliver(2));
+        e.due("count(7)", 1, x.count(7));
+        dueTraces("after deliver(2)", x, 1, 3);
+    }
+
+    private static void twiceStays() {
+        AutoTeller x = withLetters(3);
+        e.due("twice(1)", 4, x.twice(1));
+        dueTraces("after twice(1)", x, 1, 2, 3, 2);
+        e.due("letter(1, 0)", 1, x.letter(1, 0));
+        e.due("letter(3, 0)", 129, x.letter(3, 0));
+        e.due("twice(3)", 4, x.twice(3));
+        dueTraces("after twice(3)", x, 1, 2, 3, 2);
+        e.due("count(7)", 1, x.count(7));
+        x = Setup.answered(100);
+        e.due("twice(0)", 1, x.twice(0));
+        e.due("take()", 100, x.take());
+        e.due("twice(0) once more", 1, x.twice(0));
+        e.due("take()", 0, x.take());
+        e.due("count(7)", 1, x.count(7));
+        x = Setup.answered(100);
+        x.cut();
+        e.due("twice(0) while off", 1, x.twice(0));
+        e.due("count(7)", 0, x.count(7));
+    }
+
+    private static void pokeChangesAByte() {
+        AutoTeller x = withLetters(2);
+        e.due("poke(1, 9, 255)", true, x.poke(1, 9, 255));
+        e.due("letter(1, 9)", 210 ^ 255, x.letter(1, 9));
+        e.due("letter(0, 9)", 210, x.letter(0, 9));
+        e.due("letter(1, 8)", 4, x.letter(1, 8));
+        e.due("poke(1, 9, 255)", true, x.poke(1, 9, 255));
+        e.due("letter(1, 9)", 210, x.letter(1, 9));
+        e.due("poke(1, 12, 1)", true, x.poke(1, 12, 1));
+        e.due("deliver(1)", 1, x.deliver(1));
+        e.due("count(7)", 1, x.count(7));
+    }
+
+    private static void everyBitIsChecked() {
+        for (int k = 0; k < 13; k++) {
+            AutoTeller toHost = Setup.asked(100);
+            AutoTeller toMachine = Setup.answered(100);
+            for (int bit = 1; bit < 256; bit *= 2) {
+                toHost.poke(0, k, bit);
+                e.due("twice(0), byte " + k + " bit " + bit + " to the host", 1, toHost.twice(0));
+                toHost.poke(0, k, bit);
+                toMachine.poke(0, k, bit);
+                e.due("twice(0), byte " + k + " bit " + bit + " to the machine", 1, toMachine.twice(0));
+                toMachine.poke(0, k, bit);
+            }
+            e.due("count(7) of the host", 8, toHost.count(7));
+            e.due("balance(0)", 1000, toHost.balance(0));
+            e.due("count(7) of the machine", 8, toMachine.count(7));
+            e.due("count(1)", 4, toMachine.count(1));
+        }
+    }
+
+    private static void dueAtHost(String what, AutoTeller x, int at, long value, boolean taken) {
+        if (at == Setup.TRACE || at == Setup.VALUE) {
+            Setup.setNumber(x, 0, at, value);
+        } else {
+            Setup.setByte(x, 0, at, (int) value);
+        }
+        e.due("deliver(0) with " + what + " " + value, taken ? 1 : 0, x.deliver(0));
+        e.due("count(7) with " + what + " " + value, taken ? 0 : 1, x.count(7));
+    }
+
+    private static AutoTeller withPin() {
+        AutoTeller x = Setup.inserted();
+        x.pin(1234);
+        return x;
+    }
+
+    private static void hostDrops() {
+        for (int kind : new int[] {0, 4, 127, 128, 129, 130, 131, 255}) {
+            dueAtHost("kind", withPin(), Setup.KIND, kind, false);
+        }
+        for (long trace : new long[] {0, 2001, 65536, 16777217, 2147483648L, 4294967295L}) {
+            dueAtHost("trace of PIN", withPin(), Setup.TRACE, trace, false);
+            dueAtHost("trace of DEBIT", Setup.asked(100), Setup.TRACE, trace, false);
+            dueAtHost("trace of REVERSAL", Setup.reversing(100), Setup.TRACE, trace, false);
+        }
+        for (int card : new int[] {16, 17, 128, 255}) {
+            dueAtHost("card of PIN", withPin(), Setup.CARD, card, false);
+            dueAtHost("card of DEBIT", Setup.asked(100), Setup.CARD, card, false);
+            dueAtHost("card of REVERSAL", Setup.reversing(100), Setup.CARD, card, false);
+        }
+        for (long pin : new long[] {10000, 65536, 2147483648L, 4294967295L}) {
+            dueAtHost("PIN", withPin(), Setup.VALUE, pin, false);
+        }
+        for (long amount : new long[] {0, 40001, 2147483648L, 4294967295L}) {
+            dueAtHost("amount of DEBIT", Setup.asked(100), Setup.VALUE, amount, false);
+        }
+    }
+
+    private static void hostTakesTheEdges() {
+        for (int kind = 1; kind <= 3; kind++) {
+            dueAtHost("kind", withPin(), Setup.KIND, kind, true);
+        }
+        for (long trace : new long[] {1, 2000}) {
+            dueAtHost("trace of PIN", withPin(), Setup.TRACE, trace, true);
+            dueAtHost("trace of DEBIT", Setup.asked(100), Setup.TRACE, trace, true);
+            dueAtHost("trace of REVERSAL", Setup.reversing(100), Setup.TRACE, trace, true);
+        }
+        dueAtHost("card of PIN", withPin(), Setup.CARD, 15, true);
+        dueAtHost("PIN", withPin(), Setup.VALUE, 0, true);
+        dueAtHost("PIN", withPin(), Setup.VALUE, 9999, true);
+        dueAtHost("amount of DEBIT", Setup.asked(100), Setup.VALUE, 1, true);
+        dueAtHost("amount of DEBIT", Setup.asked(100), Setup.VALUE, 40000, true);
+        dueAtHost("amount of REVERSAL", Setup.reversing(100), Setup.VALUE, 0, true);
+        dueAtHost("amount of REVERSAL", Setup.reversing(100), Setup.VALUE, 40001, true);
+        dueAtHost("code of DEBIT", Setup.asked(100), Setup.CODE, 7, true);
+        AutoTeller x = Setup.asked(100);
+        Setup.setNumber(x, 0, Setup.TRACE, 1);
+        x.deliver(0);
+        e.due("balance(0): trace 1 is known as a PIN, not as a DEBIT", 900, x.balance(0));
+    }
+
+    private static void machineDropsOtherTraces() {
+        for (long trace : new long[] {0, 1, 3, 258, 4294967295L}) {
+            AutoTeller x = Setup.answered(100);
+            Setup.setNumber(x, 0, Setup.TRACE, trace);
+            x.deliver(0);
+            e.due("count(7) with trace " + trace, 1, x.count(7));
+            e.due("count(1) with trace " + trace, 4, x.count(1));
+        }
+    }
+
+    private static void machineDropsOtherKinds() {
+        for (int kind : new int[] {1, 2, 3, 129, 130, 131, 132, 255}) {
+            AutoTeller x = withPin();
+            x.deliver(0);
+            dueAtMachine(x, kind, 2, kind == 129 ? 3 : 2);
+            dueAtMachine(Setup.answered(100), kind, 4, kind == 130 ? 3 : 4);
+            x = Setup.reversing(100);
+            x.deliver(0);
+            dueAtMachine(x, kind, 5, kind == 131 ? 0 : 5);
+        }
+    }
+
+    private static void dueAtMachine(AutoTeller x, int kind, int before, int after) {
+        Setup.setByte(x, 0, Setup.KIND, kind);
+        x.deliver(0);
+        e.due("count(1) after kind " + kind + " in phase " + before, after, x.count(1));
+        e.due("count(7) after kind " + kind + " in phase " + before, before == after ? 1 : 0, x.count(7));
+    }
+
+    /** A letter that the machine sent is for the host, whatever its kind is changed to, and the other way round. */
+    private static void lettersStayOnTheirWay() {
+        AutoTeller x = withPin();
+        Setup.setByte(x, 0, Setup.KIND, 129);
+        x.cut();
+        e.due("deliver(0) of PIN with the kind of an answer", 0, x.deliver(0));
+        e.due("count(7): the host dropped it", 1, x.count(7));
+        x = Setup.answered(100);
+        Setup.setByte(x, 0, Setup.KIND, 3);
+        x.cut();
+        e.due("deliver(0) of an answer with the kind REVERSAL", 0, x.deliver(0));
+        e.due("count(7): it is gone", 0, x.count(7));
+        e.due("balance(0)", 900, x.balance(0));
+    }
+
+    private static void roomForTwentyFour() {
+        AutoTeller x = withLetters(24);
+        e.due("count(6)", 24, x.count(6));
+        e.due("count(8)", 0, x.count(8));
+        e.due("letter(23, 4)", 24, x.letter(23, 4));
+        x.insert(0);
+        x.pin(1234);
+        e.due("count(6)", 24, x.count(6));
+        e.due("count(8)", 1, x.count(8));
+        e.due("letter(0, 4)", 2, x.letter(0, 4));
+        e.due("letter(23, 4)", 25, x.letter(23, 4));
+        e.due("letter(24, 4)", -1, x.letter(24, 4));
+        e.due("deliver(23)", 24, x.deliver(23));
+        e.due("letter(23, 0)", 129, x.letter(23, 0));
+        e.due("letter(0, 4)", 2, x.letter(0, 4));
+        e.due("count(8)", 1, x.count(8));
+        e.due("count(7)", 0, x.count(7));
+    }
+
+    private static void roomWhenTwice() {
+        AutoTeller x = withLetters(24);
+        e.due("twice(0)", 24, x.twice(0));
+        e.due("count(8)", 1, x.count(8));
+        e.due("letter(0, 4)", 2, x.letter(0, 4));
+        e.due("letter(23, 0)", 129, x.letter(23, 0));
+        e.due("letter(23, 4)", 1, x.letter(23, 4));
+        e.due("twice(5)", 24, x.twice(5));
+        e.due("letter(4, 4): it stays", 7, x.letter(4, 4));
+        e.due("letter(23, 4)", 7, x.letter(23, 4));
+        e.due("count(8)", 2, x.count(8));
+    }
+}
