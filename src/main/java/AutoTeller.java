@@ -608,7 +608,7 @@ public final class AutoTeller {
 
         /** NONE when so few notes cannot be worth the amount, which spares a search in vain. */
         private int mostOf(int cassette, int amount, int room) {
-            if (!isCassette(cassette) || room < 0 || amount > room * largest) {
+            if (cassette < 0 || cassette >= CASSETTES || room < 0 || amount > room * largest) {
                 return NONE;
             }
             int worth = denominations[cassette];

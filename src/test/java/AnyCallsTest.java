@@ -12,10 +12,10 @@ final class AnyCallsTest {
     };
 
     public static void main(String[] args) {
-        for (int seed = 0; seed < 1500; seed++) {
+        for (int seed = 0; seed < 6000; seed++) {
             oneRun(seed);
         }
-        for (int seed = 0; seed < 500; seed++) {
+        for (int seed = 0; seed < 3000; seed++) {
             oddCalls(new Random(seed));
         }
         e.end();
@@ -42,7 +42,7 @@ final class AnyCallsTest {
         for (int c = 0; c < 4; c++) {
             t.fill(c);
         }
-        for (int n = 0; n < 400; n++) {
+        for (int n = 0; n < 120; n++) {
             t.anyCall();
         }
         t.dueNotes("run " + seed);
@@ -163,7 +163,7 @@ final class AnyCallsTest {
 
     private static void oddCalls(Random r) {
         AutoTeller x = Setup.ready();
-        for (int n = 0; n < 490; n++) {
+        for (int n = 0; n < 120; n++) {
             switch (r.nextInt(24)) {
                 case 0: x.account(odd(r), (long) odd(r) * odd(r)); break;
                 case 1: x.card(odd(r), odd(r), odd(r)); break;

@@ -95,8 +95,9 @@ final class Setup {
     static int checkOf(AutoTeller x, int i) {
         boolean[] bits = new boolean[11 * 8 + 16];
         for (int k = 0; k < 11; k++) {
+            int value = x.letter(i, k);
             for (int bit = 0; bit < 8; bit++) {
-                boolean set = (x.letter(i, k) >> (7 - bit) & 1) == 1;
+                boolean set = (value >> (7 - bit) & 1) == 1;
                 bits[8 * k + bit] = k < 2 ? !set : set;
             }
         }

@@ -15,6 +15,7 @@ final class WithdrawalTest {
         machinePaysItsOwnAmount();
         recordsOfWhat();
         journalNearlyFull();
+        journalOneBeyond();
         e.end();
     }
 
@@ -218,5 +219,16 @@ final class WithdrawalTest {
         e.due("ask(5) with 293 records: looked at before the mix", -1, x.ask(5));
         e.due("take()", 970, x.take());
         e.due("eject()", true, x.eject());
+    }
+
+    private static void journalOneBeyond() {
+        AutoTeller x = Setup.open();
+        x.load(0, 10, 200);
+        for (int n = 0; n < 97; n++) {
+            Setup.withdraw(x, 10);
+        }
+        e.due("count(3)", 291, x.count(3));
+        e.due("ask(10) with 291 records", -1, x.ask(10));
+        e.due("count(1)", 3, x.count(1));
     }
 }
