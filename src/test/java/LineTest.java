@@ -154,28 +154,22 @@ final class LineTest {
         e.due("count(7) with " + what + " " + value, taken ? 0 : 1, x.count(7));
     }
 
-    private static AutoTeller withPin() {
-        AutoTeller x = Setup.inserted();
-        x.pin(1234);
-        return x;
-    }
-
     private static void hostDrops() {
         for (int kind : new int[] {0, 4, 127, 128, 129, 130, 131, 255}) {
-            dueAtHost("kind", withPin(), Setup.KIND, kind, false);
+            dueAtHost("kind", Setup.pinSent(), Setup.KIND, kind, false);
         }
         for (long trace : new long[] {0, 2001, 65536, 16777217, 2147483648L, 4294967295L}) {
-            dueAtHost("trace of PIN", withPin(), Setup.TRACE, trace, false);
+            dueAtHost("trace of PIN", Setup.pinSent(), Setup.TRACE, trace, false);
             dueAtHost("trace of DEBIT", Setup.asked(100), Setup.TRACE, trace, false);
             dueAtHost("trace of REVERSAL", Setup.reversing(100), Setup.TRACE, trace, false);
         }
         for (int card : new int[] {16, 17, 128, 255}) {
-            dueAtHost("card of PIN", withPin(), Setup.CARD, card, false);
+            dueAtHost("card of PIN", Setup.pinSent(), Setup.CARD, card, false);
             dueAtHost("card of DEBIT", Setup.asked(100), Setup.CARD, card, false);
             dueAtHost("card of REVERSAL", Setup.reversing(100), Setup.CARD, card, false);
         }
         for (long pin : new long[] {10000, 65536, 2147483648L, 4294967295L}) {
-            dueAtHost("PIN", withPin(), Setup.VALUE, pin, false);
+            dueAtHost("PIN", Setup.pinSent(), Setup.VALUE, pin, false);
         }
         for (long amount : new long[] {0, 40001, 2147483648L, 4294967295L}) {
             dueAtHost("amount of DEBIT", Setup.asked(100), Setup.VALUE, amount, false);
@@ -184,16 +178,16 @@ final class LineTest {
 
     private static void hostTakesTheEdges() {
         for (int kind = 1; kind <= 3; kind++) {
-            dueAtHost("kind", withPin(), Setup.KIND, kind, true);
+            dueAtHost("kind", Setup.pinSent(), Setup.KIND, kind, true);
         }
         for (long trace : new long[] {1, 2000}) {
-            dueAtHost("trace of PIN", withPin(), Setup.TRACE, trace, true);
+            dueAtHost("trace of PIN", Setup.pinSent(), Setup.TRACE, trace, true);
             dueAtHost("trace of DEBIT", Setup.asked(100), Setup.TRACE, trace, true);
             dueAtHost("trace of REVERSAL", Setup.reversing(100), Setup.TRACE, trace, true);
         }
-        dueAtHost("card of PIN", withPin(), Setup.CARD, 15, true);
-        dueAtHost("PIN", withPin(), Setup.VALUE, 0, true);
-        dueAtHost("PIN", withPin(), Setup.VALUE, 9999, true);
+        dueAtHost("card of PIN", Setup.pinSent(), Setup.CARD, 15, true);
+        dueAtHost("PIN", Setup.pinSent(), Setup.VALUE, 0, true);
+        dueAtHost("PIN", Setup.pinSent(), Setup.VALUE, 9999, true);
         dueAtHost("amount of DEBIT", Setup.asked(100), Setup.VALUE, 1, true);
         dueAtHost("amount of DEBIT", Setup.asked(100), Setup.VALUE, 40000, true);
         dueAtHost("amount of REVERSAL", Setup.reversing(100), Setup.VALUE, 0, true);
@@ -217,7 +211,7 @@ final class LineTest {
 
     private static void machineDropsOtherKinds() {
         for (int kind : new int[] {1, 2, 3, 129, 130, 131, 132, 255}) {
-            AutoTeller x = withPin();
+            AutoTeller x = Setup.pinSent();
             x.deliver(0);
             dueAtMachine(x, kind, 2, kind == 129 ? 3 : 2);
             dueAtMachine(Setup.answered(100), kind, 4, kind == 130 ? 3 : 4);
@@ -236,7 +230,7 @@ final class LineTest {
 
     /** A letter that the machine sent is for the host, whatever its kind is changed to, and the other way round. */
     private static void lettersStayOnTheirWay() {
-        AutoTeller x = withPin();
+        AutoTeller x = Setup.pinSent();
         Setup.setByte(x, 0, Setup.KIND, 129);
         x.cut();
         e.due("deliver(0) of PIN with the kind of an answer", 0, x.deliver(0));

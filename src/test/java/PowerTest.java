@@ -94,8 +94,7 @@ final class PowerTest {
     }
 
     private static void cutInEachPhase() {
-        AutoTeller[] idle = {Setup.ready(), Setup.inserted(), Setup.inserted(), Setup.open()};
-        idle[2].pin(1234);
+        AutoTeller[] idle = {Setup.ready(), Setup.inserted(), Setup.pinSent(), Setup.open()};
         for (AutoTeller x : idle) {
             long phase = x.count(1);
             long sent = x.count(6);
@@ -145,13 +144,6 @@ final class PowerTest {
         e.due(when + ": its trace", 2, x.letter(letters - 1, 4));
     }
 
-    /** Every letter comes, in order, until nothing is in flight. */
-    private static void deliverAll(AutoTeller x) {
-        for (int n = 0; n < 50 && x.count(6) > 0; n++) {
-            x.deliver(0);
-        }
-    }
-
     private static void powerGoesInAsk() {
         AutoTeller x = Setup.open();
         x.arm(0);
@@ -174,7 +166,7 @@ final class PowerTest {
         e.due("count(2)", 0, x.count(2));
         x.power();
         dueReversing("DEBIT not sent", x, 2, 1);
-        deliverAll(x);
+        Look.deliverAll(x);
         e.due("count(1)", 0, x.count(1));
         e.due("record(2, 0)", 5, x.record(2, 0));
 
@@ -234,7 +226,7 @@ final class PowerTest {
             e.due(when + ": cassette(" + c + ", 2)", 0, x.cassette(c, 2));
             e.due(when + ": cassette(" + c + ", 4)", n >= c + 2 ? 1 : 0, x.cassette(c, 4));
         }
-        deliverAll(x);
+        Look.deliverAll(x);
         e.due(when + ": count(1) in the end", 0, x.count(1));
         e.due(when + ": the last record", 5, x.record((int) x.count(3) - 1, 0));
     }
@@ -250,7 +242,7 @@ final class PowerTest {
         e.due("count(3)", 1, x.count(3));
         x.power();
         dueReversing("refusal not written", x, 2, 1);
-        deliverAll(x);
+        Look.deliverAll(x);
         e.due("balance(0)", 0, x.balance(0));
     }
 
@@ -296,7 +288,7 @@ final class PowerTest {
         e.due("count(3)", 2, x.count(3));
         x.power();
         dueReversing("record 5 not written", x, 2, 2);
-        deliverAll(x);
+        Look.deliverAll(x);
         e.due("count(1)", 0, x.count(1));
         e.due("count(3)", 3, x.count(3));
         e.due("balance(0)", 1000, x.balance(0));
@@ -337,7 +329,7 @@ final class PowerTest {
         e.due("letter(1, 4)", 4, x.letter(1, 4));
         e.due("letter(1, 5)", 2, x.letter(1, 5));
         e.due("letter(1, 9)", 60, x.letter(1, 9));
-        deliverAll(x);
+        Look.deliverAll(x);
         e.due("balance(1)", 500, x.balance(1));
         x.insert(2);
         x.pin(4);

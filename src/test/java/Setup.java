@@ -28,6 +28,13 @@ final class Setup {
         return x;
     }
 
+    /** Phase 2 with trace 1: the PIN is in flight. */
+    static AutoTeller pinSent() {
+        AutoTeller x = inserted();
+        x.pin(1234);
+        return x;
+    }
+
     /** Phase 3, nothing in flight, trace 1 used. */
     static AutoTeller open() {
         AutoTeller x = inserted();
