@@ -1,4 +1,4 @@
-/** Promises 11 to 15: deliver, twice, lose, poke, letter; what is dropped, and what is lost by want of room. */
+/** Promises 11 to 15: deliver, twice, lose, poke, letter; and what is dropped. */
 final class LineTest {
     private static final Expect e = new Expect();
 
@@ -14,8 +14,6 @@ final class LineTest {
         machineDropsOtherTraces();
         machineDropsOtherKinds();
         lettersStayOnTheirWay();
-        roomForTwentyFour();
-        roomWhenTwice();
         e.end();
     }
 
@@ -241,37 +239,5 @@ final class LineTest {
         e.due("deliver(0) of an answer with the kind REVERSAL", 0, x.deliver(0));
         e.due("count(7): it is gone", 0, x.count(7));
         e.due("balance(0)", 900, x.balance(0));
-    }
-
-    private static void roomForTwentyFour() {
-        AutoTeller x = withLetters(24);
-        e.due("count(6)", 24, x.count(6));
-        e.due("count(8)", 0, x.count(8));
-        e.due("letter(23, 4)", 24, x.letter(23, 4));
-        x.insert(0);
-        x.pin(1234);
-        e.due("count(6)", 24, x.count(6));
-        e.due("count(8)", 1, x.count(8));
-        e.due("letter(0, 4)", 2, x.letter(0, 4));
-        e.due("letter(23, 4)", 25, x.letter(23, 4));
-        e.due("letter(24, 4)", -1, x.letter(24, 4));
-        e.due("deliver(23)", 24, x.deliver(23));
-        e.due("letter(23, 0)", 129, x.letter(23, 0));
-        e.due("letter(0, 4)", 2, x.letter(0, 4));
-        e.due("count(8)", 1, x.count(8));
-        e.due("count(7)", 0, x.count(7));
-    }
-
-    private static void roomWhenTwice() {
-        AutoTeller x = withLetters(24);
-        e.due("twice(0)", 24, x.twice(0));
-        e.due("count(8)", 1, x.count(8));
-        e.due("letter(0, 4)", 2, x.letter(0, 4));
-        e.due("letter(23, 0)", 129, x.letter(23, 0));
-        e.due("letter(23, 4)", 1, x.letter(23, 4));
-        e.due("twice(5)", 24, x.twice(5));
-        e.due("letter(4, 4): it stays", 7, x.letter(4, 4));
-        e.due("letter(23, 4)", 7, x.letter(23, 4));
-        e.due("count(8)", 2, x.count(8));
     }
 }

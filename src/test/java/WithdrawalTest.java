@@ -14,8 +14,6 @@ final class WithdrawalTest {
         refusedStaysRefused();
         machinePaysItsOwnAmount();
         recordsOfWhat();
-        journalNearlyFull();
-        journalOneBeyond();
         e.end();
     }
 
@@ -196,39 +194,5 @@ final class WithdrawalTest {
         for (int bad : new int[] {-1, 4, Integer.MAX_VALUE, Integer.MIN_VALUE}) {
             e.due("record(0, " + bad + ")", -1, x.record(0, bad));
         }
-    }
-
-    /** 96 withdrawals paid and one refused make 290 records: one more may begin, then none. */
-    private static void journalNearlyFull() {
-        AutoTeller x = Setup.open();
-        x.load(0, 10, 200);
-        for (int n = 0; n < 96; n++) {
-            Setup.withdraw(x, 10);
-        }
-        x.account(0, 0);
-        Setup.withdraw(x, 10);
-        e.due("count(3)", 290, x.count(3));
-        e.due("record(289, 0)", 6, x.record(289, 0));
-        x.account(0, 1000);
-        e.due("ask(10) with 290 records", 1, x.ask(10));
-        x.deliver(0);
-        x.deliver(0);
-        e.due("count(3)", 293, x.count(3));
-        e.due("record(292, 0)", 3, x.record(292, 0));
-        e.due("ask(10) with 293 records", -1, x.ask(10));
-        e.due("ask(5) with 293 records: looked at before the mix", -1, x.ask(5));
-        e.due("take()", 970, x.take());
-        e.due("eject()", true, x.eject());
-    }
-
-    private static void journalOneBeyond() {
-        AutoTeller x = Setup.open();
-        x.load(0, 10, 200);
-        for (int n = 0; n < 97; n++) {
-            Setup.withdraw(x, 10);
-        }
-        e.due("count(3)", 291, x.count(3));
-        e.due("ask(10) with 291 records", -1, x.ask(10));
-        e.due("count(1)", 3, x.count(1));
     }
 }
