@@ -11,6 +11,7 @@ final class CardAndPinTest {
         wrongPinsKeepTheCard();
         triesAreClearedByTheRightPin();
         keptWithoutAskingForThePin();
+        keptCardIsRefused();
         cardThatIsNotTold();
         otherCodesLeaveTheCardIn();
         repeatedPinIsOneTry();
@@ -170,6 +171,23 @@ final class CardAndPinTest {
         e.due("ofCard(0, 0)", 3, x.ofCard(0, 0));
         x.deliver(0);
         e.due("ofCard(0, 1)", 1, x.ofCard(0, 1));
+    }
+
+    private static AutoTeller withKeptCard() {
+        AutoTeller x = Setup.ready();
+        x.card(15, 0, 1234);
+        x.insert(15);
+        for (int wrong = 1; wrong <= 3; wrong++) {
+            Setup.enterPin(x, wrong);
+        }
+        return x;
+    }
+
+    private static void keptCardIsRefused() {
+        e.dueNothingDone("insert(15), kept", CardAndPinTest::withKeptCard, x -> Expect.bit(x.insert(15)), 0);
+        e.dueAnswer("insert(14), another card", CardAndPinTest::withKeptCard, x -> Expect.bit(x.insert(14)), 1);
+        e.dueNothingDone("eject(), kept", CardAndPinTest::withKeptCard, x -> Expect.bit(x.eject()), 0);
+        e.dueAnswer("ofCard(14, 1)", CardAndPinTest::withKeptCard, x -> x.ofCard(14, 1), 0);
     }
 
     private static void cardThatIsNotTold() {

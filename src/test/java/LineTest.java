@@ -11,8 +11,10 @@ final class LineTest {
         everyBitIsChecked();
         hostDrops();
         hostTakesTheEdges();
+        hostReadsTheEdges();
         machineDropsOtherTraces();
         machineDropsOtherKinds();
+        machineDropsWhatItDoesNotAwait();
         lettersStayOnTheirWay();
         e.end();
     }
@@ -142,59 +144,103 @@ final class LineTest {
         }
     }
 
-    private static void dueAtHost(String what, AutoTeller x, int at, long value, boolean taken) {
+    private static void setPart(AutoTeller x, int at, long value) {
         if (at == Setup.TRACE || at == Setup.VALUE) {
             Setup.setNumber(x, 0, at, value);
         } else {
             Setup.setByte(x, 0, at, (int) value);
         }
-        e.due("deliver(0) with " + what + " " + value, taken ? 1 : 0, x.deliver(0));
-        e.due("count(7) with " + what + " " + value, taken ? 0 : 1, x.count(7));
+    }
+
+    private static void dueAtHost(String what, Expect.State state, int at, long value, boolean taken) {
+        AutoTeller x = state.make();
+        setPart(x, at, value);
+        String part = what + " " + value;
+        e.due("deliver(0) with " + part, taken ? 1 : 0, x.deliver(0));
+        e.due("count(7) with " + part, taken ? 0 : 1, x.count(7));
+        if (!taken) {
+            dueDropped("with " + part, state.make(), x);
+        }
+    }
+
+    /** A letter that is dropped is as one that is lost, but that it is counted. */
+    private static void dueDropped(String when, AutoTeller twin, AutoTeller x) {
+        twin.lose(0);
+        e.dueLook(when, Look.at(twin).replace("count(7) = 0", "count(7) = 1"), Look.at(x));
     }
 
     private static void hostDrops() {
         for (int kind : new int[] {0, 4, 127, 128, 129, 130, 131, 255}) {
-            dueAtHost("kind", Setup.pinSent(), Setup.KIND, kind, false);
+            dueAtHost("kind", Setup::pinSent, Setup.KIND, kind, false);
         }
         for (long trace : new long[] {0, 2001, 65536, 16777217, 2147483648L, 4294967295L}) {
-            dueAtHost("trace of PIN", Setup.pinSent(), Setup.TRACE, trace, false);
-            dueAtHost("trace of DEBIT", Setup.asked(100), Setup.TRACE, trace, false);
-            dueAtHost("trace of REVERSAL", Setup.reversing(100), Setup.TRACE, trace, false);
+            dueAtHost("trace of PIN", Setup::pinSent, Setup.TRACE, trace, false);
+            dueAtHost("trace of DEBIT", () -> Setup.asked(100), Setup.TRACE, trace, false);
+            dueAtHost("trace of REVERSAL", () -> Setup.reversing(100), Setup.TRACE, trace, false);
         }
         for (int card : new int[] {16, 17, 128, 255}) {
-            dueAtHost("card of PIN", Setup.pinSent(), Setup.CARD, card, false);
-            dueAtHost("card of DEBIT", Setup.asked(100), Setup.CARD, card, false);
-            dueAtHost("card of REVERSAL", Setup.reversing(100), Setup.CARD, card, false);
+            dueAtHost("card of PIN", Setup::pinSent, Setup.CARD, card, false);
+            dueAtHost("card of DEBIT", () -> Setup.asked(100), Setup.CARD, card, false);
+            dueAtHost("card of REVERSAL", () -> Setup.reversing(100), Setup.CARD, card, false);
         }
         for (long pin : new long[] {10000, 65536, 2147483648L, 4294967295L}) {
-            dueAtHost("PIN", Setup.pinSent(), Setup.VALUE, pin, false);
+            dueAtHost("PIN", Setup::pinSent, Setup.VALUE, pin, false);
         }
         for (long amount : new long[] {0, 40001, 2147483648L, 4294967295L}) {
-            dueAtHost("amount of DEBIT", Setup.asked(100), Setup.VALUE, amount, false);
+            dueAtHost("amount of DEBIT", () -> Setup.asked(100), Setup.VALUE, amount, false);
         }
     }
 
     private static void hostTakesTheEdges() {
         for (int kind = 1; kind <= 3; kind++) {
-            dueAtHost("kind", Setup.pinSent(), Setup.KIND, kind, true);
+            dueAtHost("kind", Setup::pinSent, Setup.KIND, kind, true);
         }
         for (long trace : new long[] {1, 2000}) {
-            dueAtHost("trace of PIN", Setup.pinSent(), Setup.TRACE, trace, true);
-            dueAtHost("trace of DEBIT", Setup.asked(100), Setup.TRACE, trace, true);
-            dueAtHost("trace of REVERSAL", Setup.reversing(100), Setup.TRACE, trace, true);
+            dueAtHost("trace of PIN", Setup::pinSent, Setup.TRACE, trace, true);
+            dueAtHost("trace of DEBIT", () -> Setup.asked(100), Setup.TRACE, trace, true);
+            dueAtHost("trace of REVERSAL", () -> Setup.reversing(100), Setup.TRACE, trace, true);
         }
-        dueAtHost("card of PIN", Setup.pinSent(), Setup.CARD, 15, true);
-        dueAtHost("PIN", Setup.pinSent(), Setup.VALUE, 0, true);
-        dueAtHost("PIN", Setup.pinSent(), Setup.VALUE, 9999, true);
-        dueAtHost("amount of DEBIT", Setup.asked(100), Setup.VALUE, 1, true);
-        dueAtHost("amount of DEBIT", Setup.asked(100), Setup.VALUE, 40000, true);
-        dueAtHost("amount of REVERSAL", Setup.reversing(100), Setup.VALUE, 0, true);
-        dueAtHost("amount of REVERSAL", Setup.reversing(100), Setup.VALUE, 40001, true);
-        dueAtHost("code of DEBIT", Setup.asked(100), Setup.CODE, 7, true);
+        dueAtHost("card of PIN", Setup::pinSent, Setup.CARD, 15, true);
+        dueAtHost("PIN", Setup::pinSent, Setup.VALUE, 0, true);
+        dueAtHost("PIN", Setup::pinSent, Setup.VALUE, 9999, true);
+        dueAtHost("amount of DEBIT", () -> Setup.asked(100), Setup.VALUE, 1, true);
+        dueAtHost("amount of DEBIT", () -> Setup.asked(100), Setup.VALUE, 40000, true);
+        dueAtHost("amount of REVERSAL", () -> Setup.reversing(100), Setup.VALUE, 0, true);
+        dueAtHost("amount of REVERSAL", () -> Setup.reversing(100), Setup.VALUE, 40001, true);
+        dueAtHost("code of DEBIT", () -> Setup.asked(100), Setup.CODE, 7, true);
         AutoTeller x = Setup.asked(100);
         Setup.setNumber(x, 0, Setup.TRACE, 1);
         x.deliver(0);
         e.due("balance(0): trace 1 is known as a PIN, not as a DEBIT", 900, x.balance(0));
+    }
+
+    /** The letters at the edges are not only answered: what they name is what is done. */
+    private static void hostReadsTheEdges() {
+        for (int pin : new int[] {0, 9999}) {
+            AutoTeller x = Setup.pinSent();
+            x.card(15, 0, pin);
+            Setup.setByte(x, 0, Setup.CARD, 15);
+            Setup.setNumber(x, 0, Setup.VALUE, pin);
+            x.deliver(0);
+            e.due("code of card 15 with PIN " + pin, 0, x.letter(0, 10));
+        }
+        for (int amount : new int[] {1, 40000}) {
+            AutoTeller x = Setup.asked(100);
+            x.account(7, 40000);
+            x.card(15, 7, 0);
+            Setup.setByte(x, 0, Setup.CARD, 15);
+            Setup.setNumber(x, 0, Setup.VALUE, amount);
+            x.deliver(0);
+            e.due("code of card 15 with amount " + amount, 0, x.letter(0, 10));
+            e.due("balance(7) less " + amount, 40000 - amount, x.balance(7));
+            e.due("balance(0)", 1000, x.balance(0));
+            e.due("count(9)", amount, x.count(9));
+        }
+        AutoTeller x = Setup.asked(100);
+        Setup.setNumber(x, 0, Setup.TRACE, 2000);
+        x.twice(0);
+        x.twice(0);
+        e.due("balance(0): trace 2000 is known, too", 900, x.balance(0));
     }
 
     private static void machineDropsOtherTraces() {
@@ -202,28 +248,62 @@ final class LineTest {
             AutoTeller x = Setup.answered(100);
             Setup.setNumber(x, 0, Setup.TRACE, trace);
             x.deliver(0);
-            e.due("count(7) with trace " + trace, 1, x.count(7));
             e.due("count(1) with trace " + trace, 4, x.count(1));
+            dueDropped("with trace " + trace, Setup.answered(100), x);
         }
     }
 
     private static void machineDropsOtherKinds() {
         for (int kind : new int[] {1, 2, 3, 129, 130, 131, 132, 255}) {
-            AutoTeller x = Setup.pinSent();
-            x.deliver(0);
-            dueAtMachine(x, kind, 2, kind == 129 ? 3 : 2);
-            dueAtMachine(Setup.answered(100), kind, 4, kind == 130 ? 3 : 4);
-            x = Setup.reversing(100);
-            x.deliver(0);
-            dueAtMachine(x, kind, 5, kind == 131 ? 0 : 5);
+            dueAtMachine(LineTest::pinAnswered, kind, 2, kind == 129 ? 3 : 2);
+            dueAtMachine(() -> Setup.answered(100), kind, 4, kind == 130 ? 3 : 4);
+            dueAtMachine(LineTest::reversalAnswered, kind, 5, kind == 131 ? 0 : 5);
         }
     }
 
-    private static void dueAtMachine(AutoTeller x, int kind, int before, int after) {
+    private static AutoTeller pinAnswered() {
+        AutoTeller x = Setup.pinSent();
+        x.deliver(0);
+        return x;
+    }
+
+    private static AutoTeller reversalAnswered() {
+        AutoTeller x = Setup.reversing(100);
+        x.deliver(0);
+        return x;
+    }
+
+    /** In the phases 0, 1 and 3 the machine waits for nothing, not even for its last trace. */
+    private static void machineDropsWhatItDoesNotAwait() {
+        AutoTeller x = pinAnswered();
+        x.timeout();
+        e.due("deliver(0) in phase 0", 0, x.deliver(0));
+        e.due("count(1)", 0, x.count(1));
+        e.due("count(7)", 1, x.count(7));
+        x = pinAnswered();
+        x.twice(0);
+        e.due("deliver(0) in phase 3", 0, x.deliver(0));
+        e.due("count(1)", 3, x.count(1));
+        e.due("count(7)", 1, x.count(7));
+        x = Setup.inserted();
+        x.pin(1);
+        x.deliver(0);
+        x.twice(0);
+        e.due("deliver(0) in phase 1", 0, x.deliver(0));
+        e.due("count(1)", 1, x.count(1));
+        e.due("count(7)", 1, x.count(7));
+    }
+
+    private static void dueAtMachine(Expect.State state, int kind, int before, int after) {
+        AutoTeller x = state.make();
         Setup.setByte(x, 0, Setup.KIND, kind);
         x.deliver(0);
-        e.due("count(1) after kind " + kind + " in phase " + before, after, x.count(1));
-        e.due("count(7) after kind " + kind + " in phase " + before, before == after ? 1 : 0, x.count(7));
+        String when = "kind " + kind + " in phase " + before;
+        e.due("count(1) after " + when, after, x.count(1));
+        e.due("count(7) after " + when, before == after ? 1 : 0, x.count(7));
+        if (before == after) {
+            dueDropped(when, state.make(), x);
+        }
     }
 
     /** A letter that the machine sent is for the host, whatever its kind is changed to, and the other way round. */

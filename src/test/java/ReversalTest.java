@@ -10,6 +10,7 @@ final class ReversalTest {
         reversedOnce();
         reversalBeforeTheDebit();
         reversalOfARefusedDebit();
+        reversalOfThePinsTrace();
         reversalGoesToTheAccountOfTheDebit();
         reversalOnceMore();
         answerToTheDebitComesLate();
@@ -136,6 +137,33 @@ final class ReversalTest {
         e.due("code", 0, x.letter(1, 10));
         e.due("balance(0)", 0, x.balance(0));
         e.due("count(9)", 0, x.count(9));
+    }
+
+    /** A trace is known by kind: what came as a PIN was no DEBIT, and goes on as before. */
+    private static void reversalOfThePinsTrace() {
+        AutoTeller x = Setup.inserted();
+        x.pin(1);
+        x.twice(0);
+        x.twice(0);
+        Setup.setByte(x, 0, Setup.KIND, 3);
+        x.twice(0);
+        e.due("code of a REVERSAL of the PIN's trace", 0, x.letter(3, 10));
+        Setup.setByte(x, 0, Setup.KIND, 2);
+        x.twice(0);
+        e.due("code of a DEBIT with that trace, reversed", 1, x.letter(4, 10));
+        Setup.setByte(x, 0, Setup.KIND, 1);
+        Setup.setNumber(x, 0, Setup.VALUE, 1234);
+        x.twice(0);
+        e.due("code of the PIN, as before", 1, x.letter(5, 10));
+        e.due("PIN of the answer, as asked", 210, x.letter(5, 9));
+        e.due("ofCard(0, 0)", 1, x.ofCard(0, 0));
+        e.due("balance(0)", 1000, x.balance(0));
+        x = Setup.asked(100);
+        x.twice(0);
+        Setup.setByte(x, 0, Setup.KIND, 1);
+        x.twice(0);
+        e.due("code of a PIN with the DEBIT's trace, a new one", 1, x.letter(2, 10));
+        e.due("ofCard(0, 0)", 1, x.ofCard(0, 0));
     }
 
     private static void reversalGoesToTheAccountOfTheDebit() {
