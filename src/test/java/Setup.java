@@ -98,13 +98,20 @@ final class Setup {
         }
     }
 
-    /** The check as the remainder of a long division, so that it is not reckoned as the class does it. */
     static int checkOf(AutoTeller x, int i) {
+        int[] bytes = new int[11];
+        for (int k = 0; k < 11; k++) {
+            bytes[k] = x.letter(i, k);
+        }
+        return checkOf(bytes);
+    }
+
+    /** The check as the remainder of a long division, so that it is not reckoned as the class does it. */
+    static int checkOf(int[] bytes) {
         boolean[] bits = new boolean[11 * 8 + 16];
         for (int k = 0; k < 11; k++) {
-            int value = x.letter(i, k);
             for (int bit = 0; bit < 8; bit++) {
-                boolean set = (value >> (7 - bit) & 1) == 1;
+                boolean set = (bytes[k] >> (7 - bit) & 1) == 1;
                 bits[8 * k + bit] = k < 2 ? !set : set;
             }
         }
