@@ -9,6 +9,7 @@ final class CassetteTest {
         cassetteOfWhat();
         notesKeepTheirWorth();
         trayGathers();
+        notesInTheBinAreNotPaid();
         e.end();
     }
 
@@ -122,5 +123,24 @@ final class CassetteTest {
         e.due("take()", 100, x.take());
         e.due("count(10)", 400, x.count(10));
         e.due("count(5)", 3, x.count(5));
+    }
+
+    /** What was in the stacker when the power went is worth nothing to the next customer. */
+    private static void notesInTheBinAreNotPaid() {
+        AutoTeller x = Setup.answered(180);
+        x.arm(4);
+        x.deliver(0);
+        x.power();
+        Look.deliverAll(x);
+        for (int c = 0; c < 3; c++) {
+            e.due("cassette(" + c + ", 4)", 1, x.cassette(c, 4));
+        }
+        x.insert(0);
+        Setup.enterPin(x, 1234);
+        Setup.withdraw(x, 50);
+        e.due("count(10)", 50, x.count(10));
+        e.due("take()", 50, x.take());
+        e.due("balance(0)", 950, x.balance(0));
+        e.due("cassette(2, 4): the bin is not emptied", 1, x.cassette(2, 4));
     }
 }

@@ -30,10 +30,17 @@ final class FaceTest {
                 seen.add(m.getReturnType() + " " + m.getName() + types(m.getParameterTypes()));
             }
         }
+        for (Class<?> inside : AutoTeller.class.getDeclaredClasses()) {
+            e.due("static: " + inside, true, Modifier.isStatic(inside.getModifiers()));
+            e.due("public or protected: " + inside, 0, inside.getModifiers() & (Modifier.PUBLIC | Modifier.PROTECTED));
+            for (Method m : inside.getDeclaredMethods()) {
+                hidden.add(m.getName());
+            }
+        }
         e.due("methods of the face, not " + seen, true, seen.equals(new TreeSet<>(Arrays.asList(METHODS))));
         for (String method : METHODS) {
             String name = method.substring(method.indexOf(' ') + 1, method.indexOf('('));
-            e.due("a private method named " + name, false, hidden.contains(name));
+            e.due("a method beside the face named " + name, false, hidden.contains(name));
         }
         for (Field f : AutoTeller.class.getDeclaredFields()) {
             int want = f.getName().equals("NONE") ? Modifier.PUBLIC : Modifier.PRIVATE;

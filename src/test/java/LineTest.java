@@ -9,6 +9,8 @@ final class LineTest {
         twiceStays();
         pokeChangesAByte();
         everyBitIsChecked();
+        checksOfManyLetters();
+        changedBytesGoWithTheirLetter();
         hostDrops();
         hostTakesTheEdges();
         hostReadsTheEdges();
@@ -142,6 +144,32 @@ final class LineTest {
             e.due("count(7) of the machine", 8, toMachine.count(7));
             e.due("count(1)", 4, toMachine.count(1));
         }
+    }
+
+    /** Among so many the sums on both sides of 32767 are met, where the check is reckoned in two ways. */
+    private static void checksOfManyLetters() {
+        for (int pin = 0; pin <= 9999; pin++) {
+            AutoTeller x = new AutoTeller();
+            x.insert(pin % 16);
+            x.pin(pin);
+            e.due("check of PIN " + pin, Setup.checkOf(x, 0), x.letter(0, 11) * 256 + x.letter(0, 12));
+        }
+    }
+
+    private static void changedBytesGoWithTheirLetter() {
+        AutoTeller x = Setup.pinSent();
+        for (int k = 0; k < 13; k++) {
+            x.poke(0, k, 255);
+        }
+        x.lose(0);
+        x.timeout();
+        x.insert(0);
+        x.pin(1234);
+        int[] bytes = {1, 0, 0, 0, 2, 0, 0, 0, 4, 210, 0};
+        for (int k = 0; k < bytes.length; k++) {
+            e.due("letter(0, " + k + ") of the next letter", bytes[k], x.letter(0, k));
+        }
+        e.due("its check", Setup.checkOf(x, 0), x.letter(0, 11) * 256 + x.letter(0, 12));
     }
 
     private static void setPart(AutoTeller x, int at, long value) {

@@ -19,6 +19,8 @@ final class PhaseTest {
         dueIn("cut()", "012345", 0, x -> Expect.bit(x.cut()));
         dueIn("arm(3)", "012345", 0, x -> Expect.bit(x.arm(3)));
         powerIsRefusedWhileOn();
+        cutTakesThePowerAlone();
+        powerBringsTheCardOut();
         askWithoutMix();
         whatGoesInAnyPhase();
         e.end();
@@ -58,6 +60,34 @@ final class PhaseTest {
         for (int phase = 0; phase < PHASES.length; phase++) {
             e.dueNothingDone("power() in phase " + phase, PHASES[phase], x -> Expect.bit(x.power()), 0);
             e.dueAnswer("power(), off in phase " + phase, off(PHASES[phase]), x -> Expect.bit(x.power()), 1);
+        }
+    }
+
+    /** Cassettes, stacker, tray, bin, slot, journal, next trace and OPENINGS stay, and so do letters and books. */
+    private static void cutTakesThePowerAlone() {
+        for (int phase = 0; phase < PHASES.length; phase++) {
+            String on = Look.at(PHASES[phase].make());
+            String want = on.replace("count(0) = 1", "count(0) = 0").replace("count(1) = " + phase, "count(1) = -1");
+            e.dueLook("cut() in phase " + phase, want, Look.at(off(PHASES[phase]).make()));
+        }
+        AutoTeller x = Setup.answered(180);
+        x.arm(4);
+        x.deliver(0);
+        AutoTeller twin = Setup.answered(180);
+        twin.arm(4);
+        twin.deliver(0);
+        e.due("cut() when the armed power is off", false, x.cut());
+        e.dueLook("notes in the stacker stay", Look.at(twin), Look.at(x));
+    }
+
+    /** Without a withdrawal in the journal nothing but the card and the phase changes. */
+    private static void powerBringsTheCardOut() {
+        for (int phase = 0; phase < 4; phase++) {
+            AutoTeller x = off(PHASES[phase]).make();
+            x.power();
+            String want = Look.at(PHASES[phase].make()).replace("count(1) = " + phase, "count(1) = 0")
+                    .replace("count(2) = 0", "count(2) = -1");
+            e.dueLook("power() after phase " + phase, want, Look.at(x));
         }
     }
 
